@@ -12,11 +12,16 @@ public final class RandomRunsTest {
     private final ForkBridge x = new ForkBridge();
     private final Model m = new Model();
     private int calls;
+    /** How often, of 100, a vote strays from the head's line; and how many programs share the steps. */
+    private final int straying;
+    private final int programs;
 
     private RandomRunsTest(Checks checks, int seed) {
         this.checks = checks;
         this.seed = seed;
         random = new Random(seed);
+        straying = seed % 3 == 0 ? 40 : 2;
+        programs = 2 + seed % 7;
     }
 
     public static void main(String[] args) {
@@ -62,18 +67,17 @@ public final class RandomRunsTest {
     }
 
     private void run() {
-        int steps = 40 + below(80);
+        int steps = 20 + below(20 * programs);
         while (calls < steps) {
-            piece(near(8));
+            piece(chance(95) ? below(programs) : near(8));
         }
         for (int chain = 0; chain < 2; chain++) {
             if (chance(60)) {
                 upgrade(chain, 1 + below(8));
             }
         }
-        for (int p = 0; p < 6; p++) {
-            int from = p;
-            submit(below(2), from, 0, 16 + below(8), below(300), 0, 40 + below(60), 12 + below(9), 3);
+        for (int p = 0; p < 12; p++) {
+            submit(p / 6, p % 6, 0, 16 + below(programs), below(300), 0, 20 + below(60), 12 + below(9), 3);
         }
         while (calls < CALLS) {
             act();
@@ -91,9 +95,9 @@ public final class RandomRunsTest {
 
     /** Some steps that are likely to do something together. */
     private void piece(int program) {
-        switch (below(14)) {
-            case 0 -> {
-                step(program, ForkBridge.PUSH, below(17));
+        switch (below(17)) {
+            case 0, 14, 15, 16 -> {
+                step(program, ForkBridge.PUSH, chance(90) ? 6 + below(9) : below(17));
                 step(program, ForkBridge.PUSH, below(60));
                 step(program, chance(50) ? ForkBridge.INPUT : ForkBridge.PUSH, 0);
                 step(program, ForkBridge.CALL, 0);
@@ -240,9 +244,9 @@ public final class RandomRunsTest {
 
     private void vote(int chain) {
         Model.Side side = m.sides[Math.min(1, chain)];
-        Model.Block to = chance(60) ? side.blocks.get(m.head(Math.min(1, chain))) : side.blocks.get(below(side.blocks.size()));
+        Model.Block to = chance(100 - straying) ? side.blocks.get(m.head(Math.min(1, chain))) : side.blocks.get(below(side.blocks.size()));
         Model.Block from = to.parent == null || chance(3) ? side.blocks.get(below(side.blocks.size())) : to.parent;
-        while (chance(20) && from.parent != null) {
+        while (chance(straying / 3) && from.parent != null) {
             from = from.parent;
         }
         int source = chance(1) ? -1 : from.number;
