@@ -197,7 +197,6 @@ public final class ForkBridge {
     }
 
     public int slot(int chain, int block, int account, int slot) throws IndexOutOfBoundsException, IllegalStateException {
-        demandBlock(chain, block);
         demandIndex(slot, SLOTS);
         return at(demandState(chain, block, account).slots, account * SLOTS + slot);
     }
@@ -220,7 +219,6 @@ public final class ForkBridge {
     }
 
     public int proof(int chain, int block, int account, int round) throws IndexOutOfBoundsException, IllegalStateException {
-        demandBlock(chain, block);
         demandIndex(round, ROUNDS);
         return nodeOver(demandState(chain, block, account), round, account >> round ^ 1);
     }

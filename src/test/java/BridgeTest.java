@@ -37,6 +37,9 @@ public final class BridgeTest {
         CHECKS.same("the coins lie in the bridge", x.coins(0, 1, 15), 20500);
         CHECKS.same("20 gas", x.transactionAt(0, 1, 0), 2000001);
         CHECKS.same("claim", x.claim(1, 1, 0, 0, 20, 2), 0);
+        ForkBridge one = new ForkBridge();
+        one.submit(0, 0, 0, 15, 1, 0, 20, 20, 2);
+        CHECKS.refused(one, "a value of 1 is a lock", Checks.NO_STATE, () -> one.claim(1, 1, 0, 0, 20, 2));
         ForkBridge y = locked(1);
         CHECKS.same("the other way", y.claim(0, 1, 0, 0, 20, 2), 0);
         CHECKS.refused(y, "a claim where the lock is", Checks.NO_ARGUMENT, () -> y.claim(1, 1, 0, 0, 20, 2));
@@ -100,14 +103,19 @@ public final class BridgeTest {
         CHECKS.same("burned", x.burned(1, 1), 20 * 9);
         CHECKS.same("nonce", x.codeOf(1, 1, 1), 10);
         CHECKS.same("root anew", x.rootAnew(1, 1), x.root(1, 1));
+        CHECKS.same("root anew, once more", x.rootAnew(1, 1), x.root(1, 1));
         ForkBridge poor = locked(0);
         poor.submit(1, 1, 0, 0, 9000, 0, 20, 20, 0);
         poor.claim(1, 1, 1, 0, 14, 0);
         poor.make(1, 0, 3, 1);
         CHECKS.same("60 gas at its most are too dear", Checks.countTransactions(poor, 1, 1), 1);
-        poor.claim(1, 1, 1, 0, 16, 0);
-        poor.make(1, 0, 3, 2);
-        CHECKS.same("not with 16 either", Checks.countTransactions(poor, 1, 2), 1);
+        for (int most = 30; most <= 31; most++) {
+            ForkBridge just = locked(0);
+            just.submit(1, 1, 0, 0, 8000, 0, 20, 9, 0);
+            just.claim(1, 1, 1, 0, most, 0);
+            just.make(1, 0, 3, 1);
+            CHECKS.same("1820 coins are left for 60 times " + most, Checks.countTransactions(just, 1, 1), most == 30 ? 2 : 1);
+        }
     }
 
     private static void paysNeverTwice() {

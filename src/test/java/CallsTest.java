@@ -11,6 +11,8 @@ public final class CallsTest {
         callsOfAccounts();
         callsOfContracts();
         badCalls();
+        whatIsGivenBack();
+        eachCallStartsAnew();
         gasOfCalls();
         depth();
         makes();
@@ -89,6 +91,43 @@ public final class CallsTest {
         CHECKS.same("its value too", outer.x.coins(0, 2, 9), 30);
     }
 
+    /** The outer call clears a slot, for 40; the inner one too, but ends badly. */
+    private static void whatIsGivenBack() {
+        int[] outer = steps(PUSH, 1, WRITE, 0, PUSH, 0, WRITE, 0, PUSH, 9, PUSH, 0, PUSH, 0, CALL, 0, ForkBridge.DROP, 0);
+        int[] inner = steps(PUSH, 1, WRITE, 0, PUSH, 0, WRITE, 0, ForkBridge.FAIL, 0);
+        CHECKS.same("the outer one's stays", three(outer, inner, steps(), 580).gas(), 136 + 49 + 2 + 136 - 40);
+        int[] well = java.util.Arrays.copyOf(inner, inner.length - 2);
+        CHECKS.same("at most a fifth of 343", three(outer, well, steps(), 580).gas(), 136 + 49 + 2 + 136 - 68);
+    }
+
+    private static void eachCallStartsAnew() {
+        Lab heap = Lab.of(PUSH, 1, PUSH, 1, PUSH, 1, ForkBridge.DROP, 0);
+        heap.x.submit(0, 1, 1, 6, 0, 0, 100, 10, 0);
+        heap.x.make(0, 1, 5, 1);
+        CHECKS.same("as the first one", heap.x.transactionAt(0, 2, 0), 100000 * 31 + 21);
+        for (int times = 1; times <= 3; times++) {
+            heap.x.submit(0, 1, 1 + times, 6, 0, 0, 100, 10, 0);
+            heap.x.make(0, 1 + times, 5, 1);
+        }
+        for (int block = 3; block <= 5; block++) {
+            CHECKS.same("the heap is empty at first", heap.x.transactionAt(0, block, 0) % 10, 1);
+        }
+        Lab less = new Lab().program(0, ForkBridge.INPUT, 0, ForkBridge.JUMP_IF_ZERO, 5, PUSH, 1, PUSH, 1, PUSH, 1, ForkBridge.DROP, 0);
+        less.call(0, 0, 1, 100);
+        less.x.submit(0, 1, 1, 6, 0, 0, 100, 10, 0);
+        less.x.make(0, 1, 5, 1);
+        CHECKS.same("nothing is left of the heap of the last call", less.x.transactionAt(0, 2, 0), 100000 * 100 + 20);
+        Lab memory = Lab.of(ForkBridge.GET, 4, WRITE, 0, ForkBridge.INPUT, 0, ForkBridge.PUT, 4);
+        memory.x.submit(0, 1, 1, 6, 0, 0, 100, 10, 0);
+        memory.x.make(0, 1, 5, 1);
+        CHECKS.same("cells are 0 at first", memory.x.slot(0, 2, 6, 0), 0);
+        CHECKS.same("and cost again", memory.x.transactionAt(0, 2, 0), 100000 * (20 + 3 + 12 + 30 + 2 + 3) + 21);
+        Lab first = Lab.of(ForkBridge.GET, 0, WRITE, 0, ForkBridge.INPUT, 0, ForkBridge.PUT, 0);
+        first.x.submit(0, 1, 1, 6, 0, 0, 100, 10, 0);
+        first.x.make(0, 1, 5, 1);
+        CHECKS.same("the cell 0 too", first.x.slot(0, 2, 6, 0), 0);
+    }
+
     private static void gasOfCalls() {
         // Behind 9 and 40 of the gas of 560, 511 are left; less a quarter, 127, that gives 384.
         Lab lab = three(steps(PUSH, 9, PUSH, 0, PUSH, 0, CALL, 0, WRITE, 0), steps(ForkBridge.JUMP, 0), steps(), 580);
@@ -145,6 +184,8 @@ public final class CallsTest {
         CHECKS.same("none there", poor.x.codeOf(0, 1, 12), 0);
         CHECKS.same("its nonce goes on in any case", poor.x.codeOf(0, 1, 6), 31);
         CHECKS.same("no coins go", poor.coins(6), 107);
+        Lab all = Lab.of(PUSH, 107, MAKE, 3);
+        CHECKS.same("all coins can go", all.coins(12), 107);
         Lab early = new Lab().program(0, PUSH, 1, MAKE, 3);
         early.x.submit(0, 2, 0, 12, 5, 0, 20, 10, 0);
         early.x.submit(0, 0, 0, 16, 100, 0, 20, 10, 0);

@@ -193,6 +193,9 @@ public final class ProgramsTest {
                 45 + (operation == 6 ? 3 : operation == 9 ? 20 : operation == 18 ? 3 : 2), pushes(15, operation, 0));
         }
         gives("COINS with 16 numbers", 20000, 58, pushes(16, ForkBridge.COINS, 0));
+        for (int operation : new int[] {1, 2, 3, 4, 5, 7, 8, 10, 11, 12, 16, 17, 19, 20, 21, 22}) {
+            CHECKS.yes("16 numbers for " + operation, Lab.of(pushes(16, operation, 0, ForkBridge.STOP, 0)).well() == (operation != 11));
+        }
     }
 
     private static void jumps() {
@@ -239,6 +242,7 @@ public final class ProgramsTest {
         CHECKS.same("slot 1", fresh.slot(1), 0);
         CHECKS.same("0 over 0 costs 30", Lab.of(PUSH, 0, WRITE, 0).gas(), 33);
         CHECKS.same("a number over a number costs 30", Lab.of(PUSH, 5, WRITE, 0, PUSH, 6, WRITE, 0).gas(), 103 + 33);
+        CHECKS.same("of the slot 2 too", Lab.of(PUSH, 5, WRITE, 2, PUSH, 6, WRITE, 2).gas(), 103 + 33);
         Lab cleared = Lab.of(PUSH, 5, WRITE, 0, PUSH, 0, WRITE, 0);
         CHECKS.same("0 over a number gives back at most a fifth", cleared.result / 100000, 156 - 31);
         CHECKS.same("the slot is 0", cleared.slot(0), 0);

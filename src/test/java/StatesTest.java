@@ -19,6 +19,7 @@ public final class StatesTest {
     /** A chain of four blocks, with a fork at the block 2: contracts, slots, events, burned coins, and programs that end. */
     private static ForkBridge full() {
         Lab lab = new Lab().program(0, ForkBridge.INPUT, 0, ForkBridge.WRITE, 0, ForkBridge.VALUE, 0, ForkBridge.WRITE, 3)
+            .program(2, ForkBridge.PUSH, 61, ForkBridge.WRITE, 1, ForkBridge.PUSH, 62, ForkBridge.WRITE, 2)
             .program(1, ForkBridge.PUSH, 5, ForkBridge.MAKE, 0, ForkBridge.PUSH, 6, ForkBridge.PUSH, 1, ForkBridge.PUSH, 9, ForkBridge.CALL, 0);
         ForkBridge x = lab.call(40, 11, 77, 400).x;
         x.upgrade(1, 2);
@@ -29,6 +30,9 @@ public final class StatesTest {
         x.make(0, 2, 4, 1);
         x.make(0, 1, 3, 1);
         x.make(0, 3, 2, 1);
+        x.submit(0, 5, 0, 18, 0, 0, 20, 20, 0);
+        x.submit(0, 4, 0, 13, 0, 0, 300, 20, 0);
+        x.make(0, 5, 2, 1);
         return x;
     }
 
@@ -42,7 +46,7 @@ public final class StatesTest {
         CHECKS.same("its nonce", x.codeOf(0, 2, 7), 22);
         CHECKS.same("back to 0 in the block 3", x.slot(0, 3, 6, 0), 0);
         CHECKS.same("but not in its parent", x.slot(0, 2, 6, 0), 9);
-        for (int block = 0; block < 6; block++) {
+        for (int block = 0; block < 7; block++) {
             int sum = x.burned(0, block);
             for (int account = 0; account < 16; account++) {
                 sum += x.coins(0, block, account);
@@ -76,17 +80,21 @@ public final class StatesTest {
 
     private static void leaves() {
         ForkBridge x = full();
-        for (int account = 0; account < 16; account++) {
-            int code = x.codeOf(0, 2, account);
-            long slots = mix(mix(x.slot(0, 2, account, 0), x.slot(0, 2, account, 1)), mix(x.slot(0, 2, account, 2), x.slot(0, 2, account, 3)));
-            long due = mix(x.coins(0, 2, account), mix(code / 10, mix(code % 10, slots)));
-            CHECKS.same("leaf of " + account, x.leaf(0, 2, account), due);
+        for (int n = 0; n < 32; n++) {
+            int account = n % 16;
+            int block = n < 16 ? 2 : 6;
+            int code = x.codeOf(0, block, account);
+            long slots = mix(mix(x.slot(0, block, account, 0), x.slot(0, block, account, 1)),
+                mix(x.slot(0, block, account, 2), x.slot(0, block, account, 3)));
+            long due = mix(x.coins(0, block, account), mix(code / 10, mix(code % 10, slots)));
+            CHECKS.same("leaf of " + account, x.leaf(0, block, account), due);
         }
+        CHECKS.same("the slots 1 and 2 were written", x.slot(0, 6, 13, 1) * 100 + x.slot(0, 6, 13, 2), 6162);
     }
 
     private static void proofs() {
         ForkBridge x = full();
-        for (int block = 0; block < 6; block++) {
+        for (int block = 0; block < 7; block++) {
             for (int account = 0; account < 16; account++) {
                 int leaf = x.leaf(0, block, account);
                 int[] p = new int[4];
@@ -120,7 +128,7 @@ public final class StatesTest {
             a[place] = MIXES - 1;
             CHECKS.no("the greatest number at " + place, x.proves(0, 0, 0, a[0], a[1], a[2], a[3], a[4]));
         }
-        int[][] none = {{-1, 0, 0}, {2, 0, 0}, {0, -1, 0}, {0, 6, 0}, {0, 0, -1}, {0, 0, 16}};
+        int[][] none = {{-1, 0, 0}, {2, 0, 0}, {0, -1, 0}, {0, 7, 0}, {0, 0, -1}, {0, 0, 16}};
         for (int[] a : none) {
             CHECKS.refused(x, "proves", Checks.NO_INDEX, () -> x.proves(a[0], a[1], a[2], -1, 0, 0, 0, 0));
         }
@@ -128,7 +136,7 @@ public final class StatesTest {
 
     private static void rootsOfForks() {
         ForkBridge x = full();
-        for (int block = 0; block < 6; block++) {
+        for (int block = 0; block < 7; block++) {
             CHECKS.same("root anew of " + block, x.rootAnew(0, block), x.root(0, block));
             for (int other = 0; other < block && block < 5; other++) {
                 CHECKS.no("roots are by content", x.root(0, other) == x.root(0, block));
@@ -146,7 +154,7 @@ public final class StatesTest {
 
     private static void refusals() {
         ForkBridge x = full();
-        int[][] none = {{-1, 0, 0, 0}, {2, 0, 0, 0}, {0, -1, 0, 0}, {0, 6, 0, 0}, {1, 1, 0, 0}};
+        int[][] none = {{-1, 0, 0, 0}, {2, 0, 0, 0}, {0, -1, 0, 0}, {0, 7, 0, 0}, {1, 1, 0, 0}};
         for (int[] a : none) {
             CHECKS.refused(x, "burned", Checks.NO_INDEX, () -> x.burned(a[0], a[1]));
             CHECKS.refused(x, "root", Checks.NO_INDEX, () -> x.root(a[0], a[1]));

@@ -168,6 +168,13 @@ public final class VotesTest {
         CHECKS.yes("and all behind it", x.isJustified(0, 2));
         CHECKS.yes("and all behind it", x.isJustified(0, 3));
         CHECKS.same("the highest one with a justified child", x.lastFinal(0), 2);
+        ForkBridge y = tree(0, 1, 2, 3, 4, 5, 6, 7);
+        for (int source = 7; source > 0; source--) {
+            votes(y, source, source + 1, 0, 1, 2);
+        }
+        votes(y, 0, 1, 0, 1, 2);
+        CHECKS.yes("however many", y.isJustified(0, 8));
+        CHECKS.same("however many", y.lastFinal(0), 7);
     }
 
     private static void finals() {
