@@ -118,14 +118,14 @@ public final class CallsTest {
         less.x.make(0, 1, 5, 1);
         CHECKS.same("nothing is left of the heap of the last call", less.x.transactionAt(0, 2, 0), 100000 * 100 + 20);
         Lab memory = Lab.of(ForkBridge.GET, 4, WRITE, 0, ForkBridge.INPUT, 0, ForkBridge.PUT, 4);
-        memory.x.submit(0, 1, 1, 6, 0, 0, 100, 10, 0);
+        memory.x.submit(0, 1, 1, 6, 0, 0, 300, 10, 0);
         memory.x.make(0, 1, 5, 1);
         CHECKS.same("cells are 0 at first", memory.x.slot(0, 2, 6, 0), 0);
         CHECKS.same("and cost again", memory.x.transactionAt(0, 2, 0), 100000 * (20 + 3 + 12 + 30 + 2 + 3) + 21);
         Lab first = Lab.of(ForkBridge.GET, 0, WRITE, 0, ForkBridge.INPUT, 0, ForkBridge.PUT, 0);
-        first.x.submit(0, 1, 1, 6, 0, 0, 100, 10, 0);
+        first.x.submit(0, 1, 1, 6, 0, 0, 300, 10, 0);
         first.x.make(0, 1, 5, 1);
-        CHECKS.same("the cell 0 too", first.x.slot(0, 2, 6, 0), 0);
+        CHECKS.same("the cell 0 too", first.x.transactionAt(0, 2, 0), 100000 * (20 + 3 + 30 + 2 + 3) + 21);
     }
 
     private static void gasOfCalls() {
