@@ -34,12 +34,12 @@ public final class BlocksTest {
         x.make(0, 0, 0, 1);
         int[][] none = {{-1, 0, 0, 1}, {2, 0, 0, 1}, {0, -1, 0, 1}, {0, 2, 0, 1}, {1, 1, 0, 1}, {0, 0, -1, 1}, {0, 0, 6, 1}, {0, 0, 6, 0}};
         for (int[] a : none) {
-            CHECKS.refused(x, "make " + java.util.Arrays.toString(a), Checks.NO_INDEX, () -> x.make(a[0], a[1], a[2], a[3]));
+            CHECKS.throwing("make " + java.util.Arrays.toString(a), Checks.NO_INDEX, () -> x.make(a[0], a[1], a[2], a[3]));
         }
-        CHECKS.refused(x, "weight 0", Checks.NO_ARGUMENT, () -> x.make(0, 0, 0, 0));
-        CHECKS.refused(x, "weight 10", Checks.NO_ARGUMENT, () -> x.make(0, 0, 0, 10));
-        CHECKS.refused(x, "head of 2", Checks.NO_INDEX, () -> x.head(2));
-        CHECKS.refused(x, "head of -1", Checks.NO_INDEX, () -> x.head(-1));
+        CHECKS.throwing("weight 0", Checks.NO_ARGUMENT, () -> x.make(0, 0, 0, 0));
+        CHECKS.throwing("weight 10", Checks.NO_ARGUMENT, () -> x.make(0, 0, 0, 10));
+        CHECKS.throwing("head of 2", Checks.NO_INDEX, () -> x.head(2));
+        CHECKS.throwing("head of -1", Checks.NO_INDEX, () -> x.head(-1));
         for (int v = 0; v < 3; v++) {
             x.vote(0, v, 0, 1);
         }
@@ -48,8 +48,8 @@ public final class BlocksTest {
             x.vote(0, v, 1, 2);
         }
         CHECKS.same("block 0 is dropped", x.prune(0), 1);
-        CHECKS.refused(x, "a dropped parent", Checks.NO_STATE, () -> x.make(0, 0, 0, 1));
-        CHECKS.refused(x, "a dropped parent, weight 10", Checks.NO_ARGUMENT, () -> x.make(0, 0, 0, 10));
+        CHECKS.throwing("a dropped parent", Checks.NO_STATE, () -> x.make(0, 0, 0, 1));
+        CHECKS.throwing("a dropped parent, weight 10", Checks.NO_ARGUMENT, () -> x.make(0, 0, 0, 10));
         CHECKS.same("one that is not dropped", x.make(0, 1, 0, 1), 3);
     }
 
@@ -148,7 +148,7 @@ public final class BlocksTest {
         CHECKS.same("made", x.transactionAt(0, 1, 0), 2000001);
         CHECKS.same("400", x.transactionAt(0, 1, 1), 40000010);
         CHECKS.same("180 fits just, 181 does not", x.transactionAt(0, 1, 2), 18000030);
-        CHECKS.same("no more", Checks.countTransactions(x, 0, 1), 3);
+        CHECKS.same("no more", Look.countTransactions(x, 0, 1), 3);
         CHECKS.same("full", x.used(0, 1), 600);
         CHECKS.same("two wait", x.pool(0), 2);
         x.make(0, 1, 5, 1);
@@ -168,11 +168,11 @@ public final class BlocksTest {
         CHECKS.same("badly", x.transactionAt(0, 1, 2), 100000 * 49 + 20);
         CHECKS.same("events in order, without the undone", x.eventAt(0, 1, 0), 306);
         CHECKS.same("events in order, without the undone", x.eventAt(0, 1, 1), 506);
-        CHECKS.same("two events", Checks.countEvents(x, 0, 1), 2);
+        CHECKS.same("two events", Look.countEvents(x, 0, 1), 2);
         CHECKS.same("the bloom of 3 and 5", x.bloom(0, 1), 1 << 3 | 1 << 8 + 2 | 1 << 5 | 1 << 8 + 4);
         x.make(0, 1, 5, 1);
         CHECKS.same("the next one has none", x.bloom(0, 2), 0);
-        CHECKS.same("the next one has none", Checks.countEvents(x, 0, 2) + Checks.countTransactions(x, 0, 2), 0);
+        CHECKS.same("the next one has none", Look.countEvents(x, 0, 2) + Look.countTransactions(x, 0, 2), 0);
         CHECKS.same("used is of one block", x.used(0, 2), 0);
     }
 
@@ -205,19 +205,19 @@ public final class BlocksTest {
         int[][] none = {{-1, 0}, {2, 0}, {0, -1}, {0, 2}, {1, 1}, {0, Integer.MAX_VALUE}};
         for (int[] a : none) {
             String of = " of " + java.util.Arrays.toString(a);
-            CHECKS.refused(x, "base" + of, Checks.NO_INDEX, () -> x.base(a[0], a[1]));
-            CHECKS.refused(x, "used" + of, Checks.NO_INDEX, () -> x.used(a[0], a[1]));
-            CHECKS.refused(x, "bloom" + of, Checks.NO_INDEX, () -> x.bloom(a[0], a[1]));
-            CHECKS.refused(x, "transactionAt" + of, Checks.NO_INDEX, () -> x.transactionAt(a[0], a[1], 0));
-            CHECKS.refused(x, "eventAt" + of, Checks.NO_INDEX, () -> x.eventAt(a[0], a[1], 0));
+            CHECKS.throwing("base" + of, Checks.NO_INDEX, () -> x.base(a[0], a[1]));
+            CHECKS.throwing("used" + of, Checks.NO_INDEX, () -> x.used(a[0], a[1]));
+            CHECKS.throwing("bloom" + of, Checks.NO_INDEX, () -> x.bloom(a[0], a[1]));
+            CHECKS.throwing("transactionAt" + of, Checks.NO_INDEX, () -> x.transactionAt(a[0], a[1], 0));
+            CHECKS.throwing("eventAt" + of, Checks.NO_INDEX, () -> x.eventAt(a[0], a[1], 0));
         }
         CHECKS.same("the last transaction", x.transactionAt(0, 1, 1) % 100, 11);
         CHECKS.same("the last event", x.eventAt(0, 1, 0), 1006);
         for (int place : new int[] {-1, 2, Integer.MAX_VALUE, Integer.MIN_VALUE}) {
-            CHECKS.refused(x, "transaction " + place, Checks.NO_INDEX, () -> x.transactionAt(0, 1, place));
-            CHECKS.refused(x, "event " + place, Checks.NO_INDEX, () -> x.eventAt(0, 1, place));
+            CHECKS.throwing("transaction " + place, Checks.NO_INDEX, () -> x.transactionAt(0, 1, place));
+            CHECKS.throwing("event " + place, Checks.NO_INDEX, () -> x.eventAt(0, 1, place));
         }
-        CHECKS.refused(x, "event 1 of 1", Checks.NO_INDEX, () -> x.eventAt(0, 1, 1));
-        CHECKS.refused(x, "the first block has no transaction", Checks.NO_INDEX, () -> x.transactionAt(0, 0, 0));
+        CHECKS.throwing("event 1 of 1", Checks.NO_INDEX, () -> x.eventAt(0, 1, 1));
+        CHECKS.throwing("the first block has no transaction", Checks.NO_INDEX, () -> x.transactionAt(0, 0, 0));
     }
 }

@@ -55,21 +55,21 @@ public final class BridgeTest {
         int[][] none = {{-1, 1, 0, 0, 20, 2}, {2, 1, 0, 0, 20, 2}, {1, 1, 0, -1, 20, 2}, {1, 1, 0, 4, 20, 2}, {0, 1, 0, 0, 20, 2},
             {1, -1, 0, 0, 20, 2}, {1, 6, 0, 0, 20, 2}, {1, 6, 10, 1, 0, 2}};
         for (int[] a : none) {
-            CHECKS.refused(x, "claim " + java.util.Arrays.toString(a), Checks.NO_INDEX, () -> claim(x, a));
+            CHECKS.throwing("claim " + java.util.Arrays.toString(a), Checks.NO_INDEX, () -> claim(x, a));
         }
         int[][] wrong = {{1, 1, -1, 0, 20, 2}, {1, 1, 10, 0, 20, 2}, {1, 1, 0, 0, 0, 0}, {1, 1, 0, 0, 101, 2}, {1, 1, 0, 0, 20, -1},
             {1, 1, 0, 0, 20, 21}, {1, 1, 0, 1, 20, 2}, {1, 1, 0, 2, 20, 2}, {1, 1, 10, 3, 20, 2}};
         for (int[] a : wrong) {
-            CHECKS.refused(x, "claim " + java.util.Arrays.toString(a), Checks.NO_ARGUMENT, () -> claim(x, a));
+            CHECKS.throwing("claim " + java.util.Arrays.toString(a), Checks.NO_ARGUMENT, () -> claim(x, a));
         }
-        CHECKS.refused(x, "a lock in no block", Checks.NO_STATE, () -> x.claim(1, 1, 0, 3, 20, 2));
+        CHECKS.throwing("a lock in no block", Checks.NO_STATE, () -> x.claim(1, 1, 0, 3, 20, 2));
         x.make(0, 2, 5, 1);
-        CHECKS.refused(x, "a lock in a block that is not final", Checks.NO_STATE, () -> x.claim(1, 1, 0, 3, 20, 2));
+        CHECKS.throwing("a lock in a block that is not final", Checks.NO_STATE, () -> x.claim(1, 1, 0, 3, 20, 2));
         x.make(0, 3, 5, 1);
         finalise(x, 0, 2, 3, 4);
         CHECKS.same("now it is final", x.claim(1, 1, 0, 3, 20, 2), 0);
         CHECKS.same("a block that the last final one comes from", x.claim(1, 2, 0, 0, 20, 2), 1);
-        CHECKS.refused(x, "a claim is no lock", Checks.NO_ARGUMENT, () -> x.claim(0, 1, 0, 0, 20, 2));
+        CHECKS.throwing("a claim is no lock", Checks.NO_ARGUMENT, () -> x.claim(0, 1, 0, 0, 20, 2));
         x.prune(0);
         CHECKS.same("a dropped state is no matter", x.claim(1, 3, 0, 0, 20, 2), 2);
     }
@@ -108,13 +108,13 @@ public final class BridgeTest {
         poor.submit(1, 1, 0, 0, 9000, 0, 20, 20, 0);
         poor.claim(1, 1, 1, 0, 14, 0);
         poor.make(1, 0, 3, 1);
-        CHECKS.same("60 gas at its most are too dear", Checks.countTransactions(poor, 1, 1), 1);
+        CHECKS.same("60 gas at its most are too dear", Look.countTransactions(poor, 1, 1), 1);
         for (int most = 30; most <= 31; most++) {
             ForkBridge just = locked(0);
             just.submit(1, 1, 0, 0, 8000, 0, 20, 9, 0);
             just.claim(1, 1, 1, 0, most, 0);
             just.make(1, 0, 3, 1);
-            CHECKS.same("1820 coins are left for 60 times " + most, Checks.countTransactions(just, 1, 1), most == 30 ? 2 : 1);
+            CHECKS.same("1820 coins are left for 60 times " + most, Look.countTransactions(just, 1, 1), most == 30 ? 2 : 1);
         }
     }
 
@@ -178,7 +178,7 @@ public final class BridgeTest {
         CHECKS.same("or throws one out", x.claim(1, 3, 0, 0, 20, 4), 12);
         CHECKS.same("pool", x.pool(1), 10);
         x.make(1, 0, 0, 1);
-        CHECKS.same("the last claim of person 2 is gone", Checks.countTransactions(x, 1, 1), 10);
+        CHECKS.same("the last claim of person 2 is gone", Look.countTransactions(x, 1, 1), 10);
     }
 
     private static void forks() {

@@ -87,7 +87,7 @@ public final class CallsTest {
             steps(PUSH, 5, WRITE, 0, PUSH, 1, ForkBridge.LOG, 0), steps(), 580);
         CHECKS.no("the outer one ends badly", outer.well());
         CHECKS.same("what the inner one did is undone too", outer.x.slot(0, 2, 9, 0), 0);
-        CHECKS.same("its event too", Checks.countEvents(outer.x, 0, 2), 0);
+        CHECKS.same("its event too", Look.countEvents(outer.x, 0, 2), 0);
         CHECKS.same("its value too", outer.x.coins(0, 2, 9), 30);
     }
 

@@ -1,8 +1,16 @@
 /** An object with one contract (of program 0, made by person 0) at the account 6, and a call of it, in the block 1. */
 final class Lab {
-    final ForkBridge x = new ForkBridge();
+    final ForkBridge x;
     /** What the call answered at transactionAt. */
     int result;
+
+    Lab() {
+        this(new ForkBridge());
+    }
+
+    Lab(ForkBridge x) {
+        this.x = x;
+    }
 
     /** Steps are given as operation, argument, operation, argument, and so on. */
     static void program(ForkBridge x, int program, int... steps) {
@@ -47,7 +55,7 @@ final class Lab {
     }
 
     int events() {
-        return Checks.countEvents(x, 0, 1);
+        return Look.countEvents(x, 0, 1);
     }
 
     /** Person 1 calls the account once more, with the value 9, in the block 2. */

@@ -28,7 +28,7 @@ public final class ProgramsTest {
     private static void newObject() {
         ForkBridge x = new ForkBridge();
         for (int chain = 0; chain < 2; chain++) {
-            CHECKS.same("blocks of a new chain", Checks.blocksOf(x, chain), 1);
+            CHECKS.same("blocks of a new chain", Look.countBlocks(x, chain), 1);
             CHECKS.same("upgrade of a new chain", x.upgrade(chain, 1), 1000);
             CHECKS.same("pool", x.pool(chain), 0);
             CHECKS.same("head", x.head(chain), 0);

@@ -5,6 +5,7 @@ import java.util.function.LongSupplier;
 public final class RandomRunsTest {
     private static final int RUNS = 400;
     private static final int CALLS = 512;
+    private static final int MOST_OF_AN_ACT = 4;
 
     private final Checks checks;
     private final Random random;
@@ -79,7 +80,7 @@ public final class RandomRunsTest {
         for (int p = 0; p < 12; p++) {
             submit(p / 6, p % 6, 0, 16 + below(programs), below(300), 0, 20 + below(60), 12 + below(9), 3);
         }
-        while (calls < CALLS) {
+        while (calls + MOST_OF_AN_ACT <= CALLS) {
             act();
         }
     }

@@ -93,9 +93,10 @@ public final class StatesTest {
     }
 
     private static void proofs() {
-        ForkBridge x = full();
-        for (int block = 0; block < 7; block++) {
-            for (int account = 0; account < 16; account++) {
+        for (int n = 0; n < 14; n++) {
+            ForkBridge x = full();
+            int block = n / 2;
+            for (int account = n % 2; account < 16; account += 2) {
                 int leaf = x.leaf(0, block, account);
                 int[] p = new int[4];
                 for (int round = 0; round < 4; round++) {
@@ -113,6 +114,7 @@ public final class StatesTest {
                 CHECKS.no("another account", x.proves(0, block, account ^ 8, leaf, p[0], p[1], p[2], p[3]));
             }
         }
+        ForkBridge x = full();
         CHECKS.no("another block's root", x.proves(0, 1, 6, x.leaf(0, 2, 6), x.proof(0, 2, 6, 0), x.proof(0, 2, 6, 1), x.proof(0, 2, 6, 2), x.proof(0, 2, 6, 3)));
     }
 
@@ -122,7 +124,7 @@ public final class StatesTest {
             for (int wrong : new int[] {-1, MIXES, Integer.MAX_VALUE, Integer.MIN_VALUE}) {
                 int[] a = new int[5];
                 a[place] = wrong;
-                CHECKS.refused(x, "number " + wrong + " at " + place, Checks.NO_ARGUMENT, () -> x.proves(0, 0, 0, a[0], a[1], a[2], a[3], a[4]));
+                CHECKS.throwing("number " + wrong + " at " + place, Checks.NO_ARGUMENT, () -> x.proves(0, 0, 0, a[0], a[1], a[2], a[3], a[4]));
             }
             int[] a = new int[5];
             a[place] = MIXES - 1;
@@ -130,7 +132,7 @@ public final class StatesTest {
         }
         int[][] none = {{-1, 0, 0}, {2, 0, 0}, {0, -1, 0}, {0, 7, 0}, {0, 0, -1}, {0, 0, 16}};
         for (int[] a : none) {
-            CHECKS.refused(x, "proves", Checks.NO_INDEX, () -> x.proves(a[0], a[1], a[2], -1, 0, 0, 0, 0));
+            CHECKS.throwing("proves", Checks.NO_INDEX, () -> x.proves(a[0], a[1], a[2], -1, 0, 0, 0, 0));
         }
     }
 
@@ -145,9 +147,9 @@ public final class StatesTest {
         CHECKS.same("the block 5 has no transactions", x.root(0, 5), x.root(0, 3));
         ForkBridge y = full();
         CHECKS.same("the same blocks, the same root", y.root(0, 5), x.root(0, 5));
-        String before = Checks.look(x);
+        String before = Look.all(x);
         x.rootAnew(0, 5);
-        CHECKS.yes("running anew changes nothing", before.equals(Checks.look(x)));
+        CHECKS.yes("running anew changes nothing", before.equals(Look.all(x)));
         x.make(1, 0, 0, 1);
         CHECKS.same("nothing happened there", x.root(1, 1), 980248);
     }
@@ -156,27 +158,27 @@ public final class StatesTest {
         ForkBridge x = full();
         int[][] none = {{-1, 0, 0, 0}, {2, 0, 0, 0}, {0, -1, 0, 0}, {0, 7, 0, 0}, {1, 1, 0, 0}};
         for (int[] a : none) {
-            CHECKS.refused(x, "burned", Checks.NO_INDEX, () -> x.burned(a[0], a[1]));
-            CHECKS.refused(x, "root", Checks.NO_INDEX, () -> x.root(a[0], a[1]));
-            CHECKS.refused(x, "rootAnew", Checks.NO_INDEX, () -> x.rootAnew(a[0], a[1]));
+            CHECKS.throwing("burned", Checks.NO_INDEX, () -> x.burned(a[0], a[1]));
+            CHECKS.throwing("root", Checks.NO_INDEX, () -> x.root(a[0], a[1]));
+            CHECKS.throwing("rootAnew", Checks.NO_INDEX, () -> x.rootAnew(a[0], a[1]));
             accountRefused(x, a);
         }
         accountRefused(x, new int[] {0, 0, -1, 0});
         accountRefused(x, new int[] {0, 0, 16, 0});
-        CHECKS.refused(x, "slot -1", Checks.NO_INDEX, () -> x.slot(0, 0, 6, -1));
-        CHECKS.refused(x, "slot 4", Checks.NO_INDEX, () -> x.slot(0, 0, 6, 4));
-        CHECKS.refused(x, "round -1", Checks.NO_INDEX, () -> x.proof(0, 0, 6, -1));
-        CHECKS.refused(x, "round 4", Checks.NO_INDEX, () -> x.proof(0, 0, 6, 4));
-        CHECKS.refused(x, "prune of 2", Checks.NO_INDEX, () -> x.prune(2));
-        CHECKS.refused(x, "prune of -1", Checks.NO_INDEX, () -> x.prune(-1));
+        CHECKS.throwing("slot -1", Checks.NO_INDEX, () -> x.slot(0, 0, 6, -1));
+        CHECKS.throwing("slot 4", Checks.NO_INDEX, () -> x.slot(0, 0, 6, 4));
+        CHECKS.throwing("round -1", Checks.NO_INDEX, () -> x.proof(0, 0, 6, -1));
+        CHECKS.throwing("round 4", Checks.NO_INDEX, () -> x.proof(0, 0, 6, 4));
+        CHECKS.throwing("prune of 2", Checks.NO_INDEX, () -> x.prune(2));
+        CHECKS.throwing("prune of -1", Checks.NO_INDEX, () -> x.prune(-1));
     }
 
     private static void accountRefused(ForkBridge x, int[] a) {
-        CHECKS.refused(x, "coins", Checks.NO_INDEX, () -> x.coins(a[0], a[1], a[2]));
-        CHECKS.refused(x, "codeOf", Checks.NO_INDEX, () -> x.codeOf(a[0], a[1], a[2]));
-        CHECKS.refused(x, "slot", Checks.NO_INDEX, () -> x.slot(a[0], a[1], a[2], a[3]));
-        CHECKS.refused(x, "leaf", Checks.NO_INDEX, () -> x.leaf(a[0], a[1], a[2]));
-        CHECKS.refused(x, "proof", Checks.NO_INDEX, () -> x.proof(a[0], a[1], a[2], a[3]));
+        CHECKS.throwing("coins", Checks.NO_INDEX, () -> x.coins(a[0], a[1], a[2]));
+        CHECKS.throwing("codeOf", Checks.NO_INDEX, () -> x.codeOf(a[0], a[1], a[2]));
+        CHECKS.throwing("slot", Checks.NO_INDEX, () -> x.slot(a[0], a[1], a[2], a[3]));
+        CHECKS.throwing("leaf", Checks.NO_INDEX, () -> x.leaf(a[0], a[1], a[2]));
+        CHECKS.throwing("proof", Checks.NO_INDEX, () -> x.proof(a[0], a[1], a[2], a[3]));
     }
 
     private static void finalise(ForkBridge x, int chain, int block, int child) {
@@ -199,15 +201,15 @@ public final class StatesTest {
         CHECKS.same("the other chain is not meant", x.prune(1), 0);
         for (int block = 0; block < 2; block++) {
             int b = block;
-            CHECKS.refused(x, "coins", Checks.NO_STATE, () -> x.coins(0, b, 0));
-            CHECKS.refused(x, "codeOf", Checks.NO_STATE, () -> x.codeOf(0, b, 0));
-            CHECKS.refused(x, "slot", Checks.NO_STATE, () -> x.slot(0, b, 0, 0));
-            CHECKS.refused(x, "burned", Checks.NO_STATE, () -> x.burned(0, b));
-            CHECKS.refused(x, "leaf", Checks.NO_STATE, () -> x.leaf(0, b, 0));
-            CHECKS.refused(x, "proof", Checks.NO_STATE, () -> x.proof(0, b, 0, 0));
+            CHECKS.throwing("coins", Checks.NO_STATE, () -> x.coins(0, b, 0));
+            CHECKS.throwing("codeOf", Checks.NO_STATE, () -> x.codeOf(0, b, 0));
+            CHECKS.throwing("slot", Checks.NO_STATE, () -> x.slot(0, b, 0, 0));
+            CHECKS.throwing("burned", Checks.NO_STATE, () -> x.burned(0, b));
+            CHECKS.throwing("leaf", Checks.NO_STATE, () -> x.leaf(0, b, 0));
+            CHECKS.throwing("proof", Checks.NO_STATE, () -> x.proof(0, b, 0, 0));
             accountRefused(x, new int[] {0, b, 16, 4});
-            CHECKS.refused(x, "slot 4 of a dropped one", Checks.NO_INDEX, () -> x.slot(0, b, 0, 4));
-            CHECKS.refused(x, "round 4 of a dropped one", Checks.NO_INDEX, () -> x.proof(0, b, 0, 4));
+            CHECKS.throwing("slot 4 of a dropped one", Checks.NO_INDEX, () -> x.slot(0, b, 0, 4));
+            CHECKS.throwing("round 4 of a dropped one", Checks.NO_INDEX, () -> x.proof(0, b, 0, 4));
         }
         CHECKS.same("the root is told", x.root(0, 1), root);
         CHECKS.same("the root is found anew", x.rootAnew(0, 1), root);
@@ -230,9 +232,9 @@ public final class StatesTest {
         finalise(x, 0, 2, 6);
         CHECKS.same("final, with the height 2", x.lastFinal(0), 2);
         CHECKS.same("0, 1 and 3 are lower", x.prune(0), 3);
-        CHECKS.yes("a greater number, but a lower height", Checks.isDropped(x, 0, 3));
-        CHECKS.no("the same height", Checks.isDropped(x, 0, 4));
-        CHECKS.no("itself", Checks.isDropped(x, 0, 2));
+        CHECKS.yes("a greater number, but a lower height", Look.isDropped(x, 0, 3));
+        CHECKS.no("the same height", Look.isDropped(x, 0, 4));
+        CHECKS.no("itself", Look.isDropped(x, 0, 2));
         CHECKS.same("a fork can go on", x.make(0, 5, 0, 9), 7);
         CHECKS.same("but is not the head", x.head(0), 6);
     }

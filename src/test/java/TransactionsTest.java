@@ -40,12 +40,12 @@ public final class TransactionsTest {
             {0, 0, 0, 0, 0, 0, 601, 1, 0}, {0, 0, 0, 0, 0, 0, 20, 0, 0}, {0, 0, 0, 0, 0, 0, 20, 101, 0},
             {0, 0, 0, 0, 0, 0, 20, 1, -1}, {0, 0, 0, 0, 0, 0, 20, 7, 8}, {0, 0, 0, 0, 0, 0, Integer.MAX_VALUE, 1, 0}};
         for (int[] a : wrong) {
-            CHECKS.refused(x, "argument " + java.util.Arrays.toString(a), Checks.NO_ARGUMENT, () -> submit(x, a));
+            CHECKS.throwing("argument " + java.util.Arrays.toString(a), Checks.NO_ARGUMENT, () -> submit(x, a));
         }
         int[][] none = {{-1, 0, 0, 0, 0, 0, 20, 1, 0}, {2, 0, 0, 0, 0, 0, 20, 1, 0}, {0, -1, 0, 0, 0, 0, 20, 1, 0},
             {0, 6, 0, 0, 0, 0, 20, 1, 0}, {0, 6, 10, 24, 0, 0, 0, 0, 0}};
         for (int[] a : none) {
-            CHECKS.refused(x, "index " + java.util.Arrays.toString(a), Checks.NO_INDEX, () -> submit(x, a));
+            CHECKS.throwing("index " + java.util.Arrays.toString(a), Checks.NO_INDEX, () -> submit(x, a));
         }
     }
 
@@ -111,7 +111,7 @@ public final class TransactionsTest {
         plain(x, 0, 1, 20, 0);
         x.make(0, 1, 3, 1);
         CHECKS.same("an old nonce is not fit, the next ones are, in turn", x.transactionAt(0, 2, 0) % 1000 * 1000 + x.transactionAt(0, 2, 1) % 1000, 31021);
-        CHECKS.same("no more", Checks.countTransactions(x, 0, 2), 2);
+        CHECKS.same("no more", Look.countTransactions(x, 0, 2), 2);
         CHECKS.same("the old one waits", x.pool(0), 1);
     }
 
@@ -140,7 +140,7 @@ public final class TransactionsTest {
         CHECKS.same("pool", x.pool(0), 3);
         x.make(0, 0, 3, 1);
         CHECKS.same("the new one is run", x.transactionAt(0, 1, 0), 2000031);
-        CHECKS.same("the old one is not", Checks.countTransactions(x, 0, 1), 3);
+        CHECKS.same("the old one is not", Look.countTransactions(x, 0, 1), 3);
         CHECKS.same("pool", x.pool(0), 0);
         CHECKS.same("what is in the head is not replaced", plain(x, 0, 0, 20, 1), 4);
     }
@@ -160,7 +160,7 @@ public final class TransactionsTest {
         CHECKS.same("the pool stays at ten", x.pool(0), 10);
         x.make(0, 0, 3, 1);
         // Number 5, the last one with the least tip, was thrown out; the person 0 has the numbers 0 and 5.
-        CHECKS.same("nine more", Checks.countTransactions(x, 0, 1), 10);
+        CHECKS.same("nine more", Look.countTransactions(x, 0, 1), 10);
         boolean found = false;
         for (int place = 0; place < 10; place++) {
             found |= x.transactionAt(0, 1, place) / 10 % 100 == 5;

@@ -39,25 +39,25 @@ public final class VotesTest {
         ForkBridge x = tree(0, 1, 0);
         int[][] none = {{-1, 0, 0, 1}, {2, 0, 0, 1}, {0, -1, 0, 1}, {0, 4, 0, 1}, {0, 0, -1, 1}, {0, 0, 4, 1}, {0, 0, 0, -1}, {0, 0, 0, 4}, {1, 0, 0, 1}};
         for (int[] a : none) {
-            CHECKS.refused(x, "vote " + java.util.Arrays.toString(a), Checks.NO_INDEX, () -> x.vote(a[0], a[1], a[2], a[3]));
+            CHECKS.throwing("vote " + java.util.Arrays.toString(a), Checks.NO_INDEX, () -> x.vote(a[0], a[1], a[2], a[3]));
         }
         int[][] wrong = {{0, 0}, {1, 1}, {1, 0}, {2, 1}, {1, 3}, {3, 2}};
         for (int[] a : wrong) {
-            CHECKS.refused(x, "vote from " + a[0] + " to " + a[1], Checks.NO_ARGUMENT, () -> x.vote(0, 0, a[0], a[1]));
+            CHECKS.throwing("vote from " + a[0] + " to " + a[1], Checks.NO_ARGUMENT, () -> x.vote(0, 0, a[0], a[1]));
         }
         x.vote(0, 0, 0, 1);
         x.vote(0, 0, 0, 3);
-        CHECKS.refused(x, "a punished one", Checks.NO_STATE, () -> x.vote(0, 0, 0, 1));
-        CHECKS.refused(x, "a punished one, from 1 to 0", Checks.NO_ARGUMENT, () -> x.vote(0, 0, 1, 0));
-        CHECKS.refused(x, "a punished one, to 4", Checks.NO_INDEX, () -> x.vote(0, 0, 0, 4));
-        CHECKS.refused(x, "stake of 4", Checks.NO_INDEX, () -> x.stake(0, 4));
-        CHECKS.refused(x, "stake of -1", Checks.NO_INDEX, () -> x.stake(0, -1));
-        CHECKS.refused(x, "stake on 2", Checks.NO_INDEX, () -> x.stake(2, 0));
-        CHECKS.refused(x, "isJustified of 4", Checks.NO_INDEX, () -> x.isJustified(0, 4));
-        CHECKS.refused(x, "isJustified of -1", Checks.NO_INDEX, () -> x.isJustified(0, -1));
-        CHECKS.refused(x, "isJustified on 2", Checks.NO_INDEX, () -> x.isJustified(2, 0));
-        CHECKS.refused(x, "lastFinal of 2", Checks.NO_INDEX, () -> x.lastFinal(2));
-        CHECKS.refused(x, "lastFinal of -1", Checks.NO_INDEX, () -> x.lastFinal(-1));
+        CHECKS.throwing("a punished one", Checks.NO_STATE, () -> x.vote(0, 0, 0, 1));
+        CHECKS.throwing("a punished one, from 1 to 0", Checks.NO_ARGUMENT, () -> x.vote(0, 0, 1, 0));
+        CHECKS.throwing("a punished one, to 4", Checks.NO_INDEX, () -> x.vote(0, 0, 0, 4));
+        CHECKS.throwing("stake of 4", Checks.NO_INDEX, () -> x.stake(0, 4));
+        CHECKS.throwing("stake of -1", Checks.NO_INDEX, () -> x.stake(0, -1));
+        CHECKS.throwing("stake on 2", Checks.NO_INDEX, () -> x.stake(2, 0));
+        CHECKS.throwing("isJustified of 4", Checks.NO_INDEX, () -> x.isJustified(0, 4));
+        CHECKS.throwing("isJustified of -1", Checks.NO_INDEX, () -> x.isJustified(0, -1));
+        CHECKS.throwing("isJustified on 2", Checks.NO_INDEX, () -> x.isJustified(2, 0));
+        CHECKS.throwing("lastFinal of 2", Checks.NO_INDEX, () -> x.lastFinal(2));
+        CHECKS.throwing("lastFinal of -1", Checks.NO_INDEX, () -> x.lastFinal(-1));
     }
 
     private static void twoThirds() {
