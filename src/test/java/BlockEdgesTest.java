@@ -346,23 +346,30 @@ public final class BlockEdgesTest {
         mostEvents();
     }
 
-    /** As many events as the gas of one block pays for: the caller is the topic, 22 gas for each. */
+    /** 26 events in one block: a loop over seven of 22 gas, three times, whose END gives 60 gas back, and five of another contract. */
     private static void mostEvents() {
         ForkBridge x = new ForkBridge();
-        for (int n = 0; n < 10; n++) {
+        Lab.program(x, 0, PUSH, 1, PUSH, 0, PUSH, 0);
+        for (int n = 0; n < 7; n++) {
             Lab.program(x, 0, ForkBridge.CALLER, 0, LOG, 0);
         }
-        x.submit(0, 5, 0, 16, 0, 0, 20, 20, 9);
-        x.make(0, 0, 4, 1);
-        x.submit(0, 1, 0, 13, 0, 0, 240, 20, 8);
-        x.submit(0, 2, 0, 13, 0, 0, 240, 20, 7);
-        x.submit(0, 3, 0, 13, 0, 0, 120, 20, 6);
-        x.make(0, 1, 4, 1);
-        CHECKS.same("twenty", Look.countEvents(x, 0, 2), 20);
-        for (int place = 0; place < 20; place++) {
-            CHECKS.same("event " + place, x.eventAt(0, 2, place), place < 10 ? 113 : 213);
+        Lab.program(x, 0, ForkBridge.JUMP_IF_ZERO, 3, ForkBridge.CALLER, 0, ForkBridge.END, 0);
+        for (int n = 0; n < 5; n++) {
+            Lab.program(x, 1, ForkBridge.CALLER, 0, LOG, 0);
         }
-        CHECKS.same("found", x.find(0, 1) * 1000 + x.find(0, 2), 110110);
+        x.submit(0, 5, 0, 16, 0, 0, 20, 20, 0);
+        x.submit(0, 4, 0, 17, 0, 0, 20, 20, 0);
+        x.make(0, 0, 0, 1);
+        x.submit(0, 1, 0, 13, 0, 0, 528, 16, 2);
+        x.submit(0, 2, 0, 8, 0, 0, 130, 16, 1);
+        x.make(0, 1, 0, 1);
+        CHECKS.same("the loop", x.transactionAt(0, 2, 0), 46800021);
+        CHECKS.same("the other one", x.transactionAt(0, 2, 1), 13000031);
+        CHECKS.same("26 events", Look.countEvents(x, 0, 2), 26);
+        for (int place = 0; place < 26; place++) {
+            CHECKS.same("event " + place, x.eventAt(0, 2, place), place < 21 ? 113 : 208);
+        }
+        CHECKS.same("found", x.find(0, 1) * 1000 + x.find(0, 2), 121105);
     }
 
     private static void blooms() {
