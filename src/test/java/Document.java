@@ -3,6 +3,7 @@ import java.nio.file.Files;
 import java.nio.file.Path;
 import java.util.ArrayList;
 import java.util.List;
+import java.util.stream.Collectors;
 
 /** The document's words, so that a test can only rest on a sentence that stands there; empty where it is not at hand. */
 final class Document {
@@ -45,6 +46,13 @@ final class Document {
             }
         }
         return all;
+    }
+
+    /** The lines that the document prints as the face, from the class's to the one ahead of its end. */
+    static List<String> linesOfFace() {
+        int start = TEXT.indexOf("public final class");
+        int end = TEXT.indexOf("\n}", start);
+        return TEXT.substring(start, end).lines().map(Document::bare).collect(Collectors.toList());
     }
 
     /** The lines of a promise that tell of arguments, answers and exceptions. */

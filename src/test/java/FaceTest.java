@@ -1,7 +1,10 @@
+import java.io.IOException;
 import java.lang.reflect.Constructor;
 import java.lang.reflect.Field;
 import java.lang.reflect.Method;
 import java.lang.reflect.Modifier;
+import java.nio.file.Files;
+import java.nio.file.Path;
 import java.util.ArrayList;
 import java.util.Arrays;
 import java.util.Collections;
@@ -27,13 +30,14 @@ public final class FaceTest {
         "READ", "WRITE", "JUMP", "JUMP_IF_ZERO", "CALLER", "VALUE", "INPUT", "COINS", "PUT", "GET", "CALL", "LOG", "MAKE", "END",
         "FAIL", "STOP"};
 
-    public static void main(String[] args) throws ReflectiveOperationException {
+    public static void main(String[] args) throws ReflectiveOperationException, IOException {
         CHECKS.yes("public", Modifier.isPublic(ForkBridge.class.getModifiers()));
         CHECKS.yes("final", Modifier.isFinal(ForkBridge.class.getModifiers()));
         methods();
         constants();
         constructors();
         innerClasses();
+        printedFace();
         CHECKS.end();
     }
 
@@ -60,6 +64,23 @@ public final class FaceTest {
                 CHECKS.no("a public one's name: " + m.getName(), names.contains(m.getName()));
                 CHECKS.yes("parameters of " + m.getName(), m.getParameterCount() <= 7);
             }
+        }
+    }
+
+    /** Each line of the document's face stands in the class as it is printed, names of arguments and all. */
+    private static void printedFace() throws IOException {
+        if (!Document.isAtHand()) {
+            return;
+        }
+        List<String> source = new ArrayList<>();
+        for (String line : Files.readAllLines(Path.of("src/main/java/ForkBridge.java"))) {
+            source.add(line.strip());
+        }
+        List<String> face = Document.linesOfFace();
+        CHECKS.same("lines of the face", face.size(), FACE.length + 4);
+        for (String line : face) {
+            boolean body = line.endsWith(");") || line.endsWith("Exception;");
+            CHECKS.yes("the class has " + line, source.contains(body ? line.substring(0, line.length() - 1) + " {" : line));
         }
     }
 
